@@ -810,6 +810,7 @@ public final class TunnelBook {
         int openLetter = NONE;
         int token = NONE;
         int kind = Tape.END;
+        int place = 0;
         int number = 0;
         int parts = 0;
         int fault = NONE;
@@ -857,7 +858,7 @@ public final class TunnelBook {
         private void fail(int what) {
             if (fault == 0) {
                 fault = what;
-                faultPlace = within(token, 0, tape.tokens - 1) ? tape.place[token] : tape.length;
+                faultPlace = place;
             }
         }
 
@@ -1026,13 +1027,14 @@ public final class TunnelBook {
             if (!within(token, 0, tape.tokens - 1) || tape.size[token] != 1) {
                 return NONE;
             }
-            return tape.byteAt(tape.place[token]) - 'a';
+            return tape.byteAt(place) - 'a';
         }
 
         private void nextToken() {
             if (token + 1 < tape.tokens) {
                 token++;
                 kind = tape.kind[token];
+                place = tape.place[token];
                 number = tape.number[token];
             }
         }

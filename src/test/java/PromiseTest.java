@@ -340,7 +340,10 @@ public final class PromiseTest {
         due("unit, most, least", x.unit(false), 2000000000);
         due("count, no unit left", x.count(2, 1, 3999999 / 2), NONE);
         due("unit as ahead", x.unit(false), 2000000000);
-        int[][] bad = {{0, 1, 1}, {10000, 1, 1}, {1, 0, 1}, {1, 2, 1}, {1, 1, 2000001}, {MIN, MIN, MAX}};
+        x = new TunnelBook();
+        due("count, most units", x.count(9999, 1, 2000000), 1);
+        due("unit, cut", x.unit(true), 200020);
+        int[][] bad = {{0, 1, 1}, {10000, 1, 2000000}, {1, 0, 1}, {1, 2, 1}, {1, 1, 2000001}, {MIN, MIN, MAX}};
         for (int[] b : bad) {
             due("count" + Arrays.toString(b), x.count(b[0], b[1], b[2]), NONE);
         }
@@ -541,6 +544,7 @@ public final class PromiseTest {
         ran("line 200;shaft;", 4, 0, 200000, 0, 0, 50, 60, 0, 4, 2);
         ran("def a{rise 1;}def b{repeat 3{do a;}do a;}repeat 2{do b;fall 1;}", 0, 0, 0, 6, 0, 0, 0, 0, 0, 10);
         ran("def a{}repeat 99{do a;repeat 99{repeat 99{repeat 99{do a;}}}}rise 1;", 0, 0, 0, 1, 0, 0, 0, 0, 0, 1);
+        ran("repeat 1{}repeat 2{}def a{}do a;", 3, 0, 0, 0, 0, 0, 0, 0, 3, 0);
         ran("repeat 1{rise 1;repeat 1{rise 2;}}", 0, 0, 0, 3, 0, 0, 0, 0, 0, 2);
         ran("repeat 50{repeat 99{poles;}}repeat 50{poles;}", 0, 0, 0, 0, 0, 0, 0, 0, 0, 5000);
         ran("repeat 50{repeat 99{poles;}}repeat 51{poles;}", 0, FREE, FREE, FREE, FREE, FREE, FREE, FREE, FREE, FREE);
@@ -552,6 +556,9 @@ public final class PromiseTest {
         ran("repeat 10{line 9999;}line 10;", 8, -100000000);
         ran("repeat 10{line 9999;}line 11;", 8, FREE);
         ran("repeat 10{line 9999;}line 11;", 12, FREE);
+        ran("repeat 10{line 9999;}line 10;", 12, 0, -100000000);
+        ran("repeat 10{line 9999;}line 10;", 4, 0, 100000000);
+        ran("repeat 10{line 9999;}line 11;", 4, FREE, FREE);
         TunnelBook x = new TunnelBook();
         Texts.way(x, 0, "rise 1;");
         due("run, way 1", x.run(1, 0, 2), FREE);
@@ -574,6 +581,13 @@ public final class PromiseTest {
         due("EZ, just not beyond", x.run(1, 0, 5), 100000000);
         Texts.way(x, 1, "repeat 50{line 9999;turn 8;line 9999;turn 8;}line 101;");
         due("EZ, beyond", x.run(1, 0, 5), FREE);
+        x.tools(1000, 0, 0, 0, 0);
+        Texts.way(x, 1, "repeat 50{line 9999;turn 8;line 9999;turn 8;}line 100;");
+        due("EX, just not beyond", x.run(1, 0, 3), 100000000);
+        due("EY, just not beyond", x.run(1, 4, 4), 100000000);
+        Texts.way(x, 1, "repeat 50{line 9999;turn 8;line 9999;turn 8;}line 101;");
+        due("EX, one line beyond", x.run(1, 0, 3), FREE);
+        due("EY, one line beyond", x.run(1, 4, 4), FREE);
     }
 
     /** 23 to 26. */
@@ -715,6 +729,10 @@ public final class PromiseTest {
         due("detour, pulled, least", x.detour(3, 5, false), 2 + 0 + 0);
         due("detour, pulled from the other side", x.detour(3, -4, true), 3 + 2 + 0);
         due("detour, pulled too late", x.detour(3, 20, true), NONE);
+        yes("seek", x.seek(1, 1, 1, 40, 3, 20));
+        due("detour, from farthest", x.detour(1, 20, false), 16);
+        due("detour, from beyond", x.detour(1, 21, false), NONE);
+        due("detour, from beyond", x.detour(1, -21, false), NONE);
         due("detour, 0 ahead", x.detour(0, 0, true), NONE);
         due("detour, 41 ahead", x.detour(41, 0, true), NONE);
         due("detour, 21 off", x.detour(1, 21, true), NONE);
@@ -813,6 +831,7 @@ public final class PromiseTest {
         x.table(9, 100);
         no("lime 1001", x.lime(1001));
         no("lime -1", x.lime(-1));
+        yes("lime 0", x.lime(0));
         yes("lime 3", x.lime(3));
         due("about lime", x.about(9), 3);
         due("flow, cut lime", x.flow(0, 33, 0, false), 1000);
