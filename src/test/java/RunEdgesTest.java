@@ -102,6 +102,13 @@ public final class RunEdgesTest extends Edges {
             due("run(" + o + ", 0, 0)", x.run(o, 0, 0), FREE);
         }
         due("run(5, 0, 0)", x.run(5, 0, 0), 1000);
+        for (int w = 0; w <= 4; w++) {
+            Texts.way(x, w, "rise 1;");
+        }
+        for (int w = 0; w <= 5; w++) {
+            due("run(" + w + ", 16, 2)", x.run(w, 16, 2), FREE);
+            due("run(" + w + ", -1, 2)", x.run(w, -1, 2), FREE);
+        }
     }
 
     private static void headings() {
@@ -146,6 +153,10 @@ public final class RunEdgesTest extends Edges {
         ran(FIRST, "line 1;", 1, 924, 383, 0, 1, 1);
         ran(FIRST, "line 4;", 1, 3696, 1532, 0, 2, 1);
         ran(FIRST, "line 6;", 1, 5544, 2298, 0, 3, 2);
+        // 843 of 707, and 47 of 383, are a thousandth above whole mm.
+        ran(new int[] {10, 0, 0, 0, 0}, "line 843;", 2, 596001, 596001, 0, 597, 597);
+        ran(new int[] {10, 0, 0, 0, 0}, "line 47;", 3, 18001, 43428, 0, 19, 44);
+        ran(new int[] {10, 0, 0, 0, 0}, "line 47;", 1, 43428, 18001, 0, 44, 19);
         // No line, b alone: ASKEW 4, then 3 * 4 / 10.
         int[] askew = {0, 0, 4, 0, 0};
         ran(askew, "turn 4;line 1;", 0, 0, 1000, 0, 1, 0, 0, 4, 4, 2);
@@ -236,6 +247,10 @@ public final class RunEdgesTest extends Edges {
         ran(FIRST, "def a{repeat 99{}}def b{repeat 99{do a;do a;}}def c{repeat 99{do b;do b;}}"
             + "repeat 99{repeat 99{do c;}rise 1;}", 0, 0, 0, 99, 0, 0, 0, 0, 0, 99);
         ranTo(FIRST, "repeat 50{rise 1;repeat 99{repeat 99{}}}", 8, 50);
+        ranTo(FIRST, "def a{}do a;do a;rise 1;", 2, 1);
+        ranTo(FIRST, "def a{}rise 1;do a;rise 2;do a;do a;", 2, 3);
+        ranTo(FIRST, "def a{}repeat 2{do a;rise 1;do a;}", 2, 2);
+        ranTo(FIRST, "def a{rise 1;}def b{}def c{do a;do b;do a;}do b;do c;do b;", 2, 2);
     }
 
     private static void mostSteps() {
@@ -256,6 +271,19 @@ public final class RunEdgesTest extends Edges {
         notDone(none, "def a{repeat 99{poles;}}def b{repeat 99{do a;}}def c{repeat 99{do b;}}def d{repeat 99{do c;}}"
             + "def e{repeat 99{do d;}}def f{repeat 99{do e;}}def g{repeat 99{do f;}}repeat 99{do g;}", 0);
         ranTo(none, "def a{repeat 99{repeat 99{poles;}}}", 8, 0);
+    }
+
+    private static void runByItself() {
+        says("a run that isn't DONE leaves nothing to the next");
+        TunnelBook x = told(new int[] {0, 0, 0, 0, 0}, "repeat 2{".repeat(7) + "repeat 20{line 9999;}" + "}".repeat(7));
+        Texts.way(x, 1, "def a{repeat 2{rise 1;}}repeat 3{repeat 2{do a;}}");
+        for (int h = 0; h < 16; h++) {
+            due("not done from " + h, x.run(0, h, 2), FREE);
+        }
+        for (int h = 0; h < 16; h++) {
+            due("z from " + h, x.run(1, h, 2), 12);
+            due("STEPS from " + h, x.run(1, h, 8), 12);
+        }
     }
 
     private static void farthestPlace() {
@@ -528,6 +556,7 @@ public final class RunEdgesTest extends Edges {
         blocks();
         emptyBlocks();
         mostSteps();
+        runByItself();
         farthestPlace();
         greatestErrors();
         meetingArguments();

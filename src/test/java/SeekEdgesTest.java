@@ -180,8 +180,12 @@ public final class SeekEdgesTest extends Edges {
         for (int ahead : new int[] {0, -1, 41, MIN, MAX}) {
             detourIs(x, ahead, 0, NONE, NONE);
         }
+        TunnelBook near = seeking(0, 1, 0, 40, 3, 20);
+        detourIs(near, 1, 20, 17, 17);
+        detourIs(near, 1, -20, 17, 17);
         for (int off : new int[] {-21, 21, MIN, MAX}) {
             detourIs(x, 1, off, NONE, NONE);
+            detourIs(near, 1, off, NONE, NONE);
         }
     }
 

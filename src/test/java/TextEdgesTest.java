@@ -268,6 +268,47 @@ public final class TextEdgesTest extends Edges {
         faulty("def a{}do a do a;", 1, 12);
     }
 
+    private static void strangeBytes() {
+        says("1 .. or is none: a byte that is no TOKEN, where each kind of TOKEN could stand");
+        for (char sign : new char[] {0, '#', '/', ':', '@', '[', '`', '|', '~', 127, 255}) {
+            faulty("" + sign, 1, 0);
+            faulty("rise " + sign + ";", 1, 5);
+            faulty("rise 1" + sign, 1, 6);
+            faulty("repeat 1" + sign + "}", 1, 8);
+            faulty("repeat 1{" + sign, 1, 9);
+            faulty("repeat 1{}" + sign, 1, 10);
+            faulty("def " + sign + "{}", 1, 4);
+            faulty("def a" + sign + "}", 1, 5);
+            faulty("def a{" + sign, 1, 6);
+            faulty("do " + sign + ";", 1, 3);
+        }
+    }
+
+    private static void readAfresh() {
+        says("a text is read by itself");
+        TunnelBook x = new TunnelBook();
+        due("a def that doesn't end", Texts.way(x, 0, "def a{repeat 2{"), NONE);
+        due("a repeat", Texts.way(x, 0, "repeat 5{rise 1;}"), 1);
+        due("its z", x.run(0, 0, 2), 5);
+        due("a def that doesn't end", Texts.way(x, 0, "def a{"), NONE);
+        due("its letter isn't there", Texts.way(x, 0, "repeat 2{}do a;"), NONE);
+        due("fault", x.fault(0), 4);
+        due("the letter isn't there", Texts.way(x, 0, "do a;"), NONE);
+        due("nor is it told", Texts.way(x, 0, "def a{rise 3;}do a;"), 2);
+        due("its z", x.run(0, 0, 2), 3);
+        due("it again", Texts.way(x, 1, "def a{rise 4;}do a;"), 2);
+        due("z of the one", x.run(0, 0, 2), 3);
+        due("z of the other", x.run(1, 0, 2), 4);
+        for (int w = 0; w <= 5; w++) {
+            Texts.way(x, w, "repeat 50{repeat 99{poles;}}");
+            due("steps of " + w, x.run(w, 0, 8), 4950);
+        }
+        due("open to the deepest", Texts.way(x, 0, times("repeat 1{", 9)), NONE);
+        due("open to the deepest anew", Texts.way(x, 0, times("repeat 1{", 8) + times("}", 8)), 1);
+        due("with } too many", Texts.way(x, 0, "}"), NONE);
+        due("place", x.fault(1), 0);
+    }
+
     private static void defsInside() {
         says("PART: def LETTER { {STEP} }, or a STEP: no def inside another or a repeat");
         faulty("def a{def b{}}", 1, 6);
@@ -473,6 +514,8 @@ public final class TextEdgesTest extends Edges {
         letters();
         allLetters();
         misplaced();
+        strangeBytes();
+        readAfresh();
         defsInside();
         wrongNumbers();
         deepest();
