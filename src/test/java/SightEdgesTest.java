@@ -20,6 +20,21 @@ public final class SightEdgesTest extends Edges {
         due("the first station", x.station(), 1);
     }
 
+    private static void lastCall() {
+        says("An object is used for at most 512 calls");
+        TunnelBook x = new TunnelBook();
+        for (int call = 1; call <= 511; call++) {
+            due("call " + call, x.days(1), call);
+        }
+        due("call 512", x.about(0), 511);
+        TunnelBook y = withStations(23);
+        for (int call = 24; call <= 510; call++) {
+            y.sight(call % 3, call % 23, 23, 0, 100);
+        }
+        due("call 511", y.gap(1, 0, 22, 0, true), 100);
+        due("call 512", y.about(2), 80);
+    }
+
     private static void clockSteps() {
         says("The clock goes on n DAYS (1 .. 1000): it. NONE for others");
         TunnelBook x = new TunnelBook();
@@ -376,6 +391,7 @@ public final class SightEdgesTest extends Edges {
     public static void main(String[] args) {
         theConstants();
         newObject();
+        lastCall();
         clockSteps();
         clockEnd();
         mostStations();
