@@ -274,6 +274,17 @@ public final class DigEdgesTest extends Edges {
         due("the peg ahead, greatest", x.when(0, 0, true), 19);
         x.mark(0, 1, 21, 30);
         due("none in all", x.when(0, 1, true), NONE);
+        due("another while BROKEN is told too", x.mark(0, 0, 5, 5), 4);
+        due("one that holds by itself", x.mark(0, 1, 0, 20000), 5);
+        due("about(5)", x.about(5), 5);
+        due("BROKEN still", x.when(0, 0, false), NONE);
+        TunnelBook y = new TunnelBook();
+        y.reach(0, 1, 9, 1, 1, 100, NONE);
+        due("a mark", y.mark(0, 0, 10, 20), 1);
+        due("a mark apart from it is told too", y.mark(0, 0, 21, 22), 2);
+        due("about(5)", y.about(5), 2);
+        due("BROKEN by both", y.when(0, 1, false), NONE);
+        due("a REACH while BROKEN is told too", y.reach(0, 1, 1, 1, 1, 100, NONE), 2);
     }
 
     private static void betweenPegs() {

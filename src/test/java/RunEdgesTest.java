@@ -273,6 +273,133 @@ public final class RunEdgesTest extends Edges {
         ranTo(none, "def a{repeat 99{repeat 99{poles;}}}", 8, 0);
     }
 
+    /** Numbers of steps that a sum would lose in 32 or 64 bits, and sums of what a def holds of another. */
+    private static void stepsWithinSteps() {
+        says("A run of more than 5000 STEPS isn't DONE, by whatever do and repeat they come");
+        int[] none = {0, 0, 0, 0, 0};
+        for (int times : new int[] {2, 4, 8, 16, 32, 64, 99}) {
+            String open = ("repeat " + times + "{").repeat(8);
+            if (times > 2) {
+                notDone(none, open + "poles;" + "}".repeat(8), 0);
+                notDone(none, "rise 1;" + open + "poles;" + "}".repeat(8) + "rise 1;", 3);
+            }
+            String held = "def a{" + ("repeat " + times + "{").repeat(7) + "poles;" + "}".repeat(8);
+            notDone(none, held + open + "do a;" + "}".repeat(8), 0);
+            notDone(none, held + "def b{" + open.substring(open.length() / 8) + "do a;" + "}".repeat(8) + "do b;", 0);
+            ranTo(none, held + "rise 1;", 8, 1);
+        }
+        for (int n = 40; n <= 60; n += 10) {
+            String halves = "def a{repeat " + n + "{poles;}}def b{repeat 50{do a;do a;}}";
+            if (n <= 50) {
+                ranTo(none, halves + "do b;", 8, 100 * n);
+                ranTo(none, halves + "def c{do b;}def d{do c;}def e{do d;}do e;", 8, 100 * n);
+            } else {
+                notDone(none, halves + "do b;", 0);
+                notDone(none, halves + "def c{do b;}def d{do c;}def e{do d;}do e;", 0);
+            }
+        }
+        notDone(none, "def a{repeat 50{poles;}}def b{repeat 50{do a;do a;}poles;}do b;", 0);
+        notDone(none, "def a{repeat 50{poles;}}def b{repeat 50{do a;do a;}}do b;poles;", 0);
+        notDone(none, "def a{repeat 50{poles;}poles;}def b{repeat 50{do a;do a;}}do b;", 0);
+        ranTo(none, "def a{repeat 50{poles;}poles;}def b{repeat 49{do a;do a;}}do b;poles;poles;", 8, 5000);
+    }
+
+    /** The most that 400 bytes can hold, and the most that stands between two STEPS. */
+    private static void fullTexts() {
+        says("texts of up to 400 bytes, run to their last STEP");
+        int[] none = {0, 0, 0, 0, 0};
+        ran(none, "rise1;".repeat(66), 0, 0, 0, 66, 0, 0, 0, 0, 0, 66);
+        ran(none, "rise1;".repeat(65) + "fall 9;", 0, 0, 0, 56, 0, 0, 0, 0, 0, 66);
+        String one = "def a{rise1;}";
+        ran(none, one + "do a;".repeat(77), 0, 0, 0, 77, 0, 0, 0, 0, 0, 77);
+        ran(none, one + "repeat2{do a;}".repeat(27), 0, 0, 0, 54, 0, 0, 0, 0, 0, 54);
+        String eight = "repeat2{".repeat(8) + "do a;" + "}".repeat(8);
+        ran(none, one + eight.repeat(5), 0, 0, 0, 1280, 0, 0, 0, 0, 0, 1280);
+        ran(none, one + "def b{" + "do a;".repeat(75) + "}", 0, 0, 0, 0, 0, 0, 0, 0, 0, 0);
+        ran(none, one + "def b{" + "do a;".repeat(74) + "}do b;", 0, 0, 0, 74, 0, 0, 0, 0, 0, 74);
+        StringBuilder chain = new StringBuilder("def a{rise 1;}");
+        for (char letter = 'b'; letter <= 'h'; letter++) {
+            chain.append("def ").append(letter).append("{do ").append((char) (letter - 1)).append(";}");
+        }
+        String calls = chain + "repeat 50{repeat 50{do h;do h;}}";
+        ran(none, calls, 0, 0, 0, 5000, 0, 0, 0, 0, 0, 5000);
+        notDone(none, calls + "do h;", 0);
+        ran(none, chain + "repeat 2{".repeat(8) + "do h;do h;do h;do h;do h;" + "}".repeat(8), 5, 0, 0, 1280, 0, 0, 0, 0,
+            5, 1280);
+    }
+
+    private static void askewFar() {
+        says("b = n ASKEW / 10: an error that comes beyond 100000000 by ASKEW");
+        int[] turning = {0, 0, 1000, 10000, 1000};
+        // From 150 turns on a line of 9999 m is off by more, whatever the heading; 215 and 430 turns are 2 ^ 31, 2 ^ 32.
+        int[][] turns = {{2, 75}, {3, 71}, {2, 99}, {3, 72}, {4, 80}, {5, 86}, {8, 99}, {10, 86}, {13, 99}, {43, 99},
+            {50, 99}};
+        for (int[] t : turns) {
+            String turned = "repeat " + t[0] + "{repeat " + t[1] + "{turn 1;}}";
+            for (int h = 0; h < 16; h += 3) {
+                notDone(turning, turned + "line 9999;", h);
+                notDone(turning, turned + "line 9999;shaft;", h);
+            }
+            ranTo(turning, turned, 6, 1000 * t[0] * t[1]);
+            ranTo(turning, turned + "poles;line 9999;", 6, 1000);
+        }
+        ran(turning, "repeat 50{turn 8;turn 8;}line 9999;", 0, 9999000, 0, 0, 0, 99990000, 0, 100000);
+        ran(turning, "repeat 50{turn 8;turn 8;}line 9999;line 1;", 0, 10000000, 0, 0, 0, 100000000, 0, 100000);
+        notDone(turning, "repeat 50{turn 8;turn 8;}line 9999;line 2;", 0);
+    }
+
+    private static void roundedOnce() {
+        says("EX is (a |DX| + b |DY|) / 1000 more, EY (a |DY| + b |DX|) / 1000, each rounded up: once, behind the sum");
+        ran(new int[] {20, 0, 20, 0, 0}, "turn 2;line 1;", 0, 707, 707, 0, 3, 3, 0, 20, 2, 2);
+        ran(new int[] {20, 0, 20, 0, 0}, "turn 2;line 1;", 4, -707, 707, 0, 3, 3, 0, 20, 6, 2);
+        // 3 * 924 + 6 * 383 = 5070, 3 * 383 + 6 * 924 = 6693; rounded part by part 3 + 3, 2 + 6.
+        ran(new int[] {30, 0, 60, 0, 0}, "turn 1;line 1;", 0, 924, 383, 0, 6, 7, 0, 60, 1, 2);
+        // 1 * 924 + 28 * 383 = 11648, 1 * 383 + 28 * 924 = 26255.
+        ran(new int[] {10, 0, 280, 0, 0}, "turn 1;line 1;", 0, 924, 383, 0, 12, 27, 0, 280, 1, 2);
+        // Line by line: 707 + 707 is 2 more each time, not 15 for ten.
+        ran(new int[] {10, 0, 10, 0, 0}, "turn 2;repeat 10{line 1;}", 0, 7070, 7070, 0, 20, 20, 0, 10, 2, 11);
+        ran(new int[] {10, 0, 10, 0, 0}, "turn 2;line 10;", 0, 7070, 7070, 0, 15, 15, 0, 10, 2, 2);
+    }
+
+    private static TunnelBook sixLines(String text) {
+        TunnelBook x = new TunnelBook();
+        for (int w = 0; w < 6; w++) {
+            due("way " + w, Texts.way(x, w, text), 1);
+        }
+        return x;
+    }
+
+    /** EX of line n with tools of 10 mm for 10 m, by heading: what the heading's |DX| leaves of n * 10 mm, rounded up. */
+    private static int errorOf(int n, int heading) {
+        int[] along = {1000, 924, 707, 383, 0, 383, 707, 924};
+        return (10 * n * along[heading % 8] / 10 + 999) / 1000;
+    }
+
+    private static void everyStart() {
+        says("each WAY from each heading is run by what was told last, TOOLS and text");
+        TunnelBook x = sixLines("line 700;");
+        for (int[] line : new int[][] {{0, 0}, {10, 700}, {0, 0}}) {
+            yes("tools", x.tools(line[0], 0, 0, 0, 0));
+            for (int start = 0; start < 96; start++) {
+                int w = start / 16;
+                int h = start % 16;
+                due("EX of " + w + " from " + h + " by LINE " + line[0], x.run(w, h, 3), errorOf(line[1], h));
+            }
+        }
+        for (int changed = 0; changed < 6; changed++) {
+            TunnelBook y = sixLines("line 700;");
+            yes("tools", y.tools(10, 0, 0, 0, 0));
+            for (int start = 0; start < 96; start++) {
+                due("EX ahead of it", y.run(start / 16, start % 16, 3), errorOf(700, start % 16));
+            }
+            due("another text", Texts.way(y, changed, "line 300;"), 1);
+            for (int start = 0; start < 96; start++) {
+                int n = start / 16 == changed ? 300 : 700;
+                due("EX behind it", y.run(start / 16, start % 16, 3), errorOf(n, start % 16));
+            }
+        }
+    }
+
     private static void runByItself() {
         says("a run that isn't DONE leaves nothing to the next");
         TunnelBook x = told(new int[] {0, 0, 0, 0, 0}, "repeat 2{".repeat(7) + "repeat 20{line 9999;}" + "}".repeat(7));
@@ -444,6 +571,49 @@ public final class RunEdgesTest extends Edges {
         due("one value", x.fits(0, 0, 0, 1), 0);
     }
 
+    private static void thereAtFirst() {
+        says("there: at first 0, 0");
+        for (int axis = 0; axis <= 2; axis++) {
+            for (int off = -2; off <= 2; off++) {
+                TunnelBook x = withStations(1);
+                x.tools(0, 0, 0, 0, 0);
+                Texts.way(x, 0, "");
+                for (int i = 0; i <= 2; i++) {
+                    int gap = i == axis ? off : 0;
+                    x.sight(i, 0, 1, gap, gap);
+                }
+                due("off by " + off + " on " + axis, x.fits(0, 0, 0, 1), off == 0 ? 0 : 1);
+                no("there with LOW above", x.there(axis, 2, -2));
+                due("off by " + off + " on " + axis + ", as ahead", x.fits(0, 0, 0, 1), off == 0 ? 0 : 1);
+                yes("there", x.there(axis, off, off));
+                due("off by " + off + " on " + axis + ", and there", x.fits(0, 0, 0, 1), 0);
+            }
+        }
+    }
+
+    private static void fittingDay() {
+        says("fits, ways: what MEETING is, as KNOWN on the clock's DAY");
+        TunnelBook x = meetingPlace();
+        x.there(0, 1, 1);
+        x.there(1, 10, 30);
+        x.there(2, 100, 300);
+        due("fits on DAY 0", x.fits(0, 0, 0, 1), 0);
+        due("ways on DAY 0, each with itself", x.ways(0, 0, 0, 1, 0), 2);
+        x.days(1);
+        x.sight(0, 0, 1, 2, 3);
+        due("fits by what is told today", x.fits(0, 0, 0, 1), 1);
+        due("ways by what is told today", x.ways(0, 0, 0, 1, 0), 0);
+        due("ways ruled out by what is told today", x.ways(0, 0, 0, 1, 1), 4);
+        x.days(1000);
+        due("fits by what is told earlier", x.fits(0, 0, 0, 1), 1);
+        x.sight(1, 0, 1, 31, 31);
+        due("fits, not closed by what is told today", x.fits(0, 0, 0, 1), 2);
+        due("ways, not closed by what is told today", x.ways(0, 0, 0, 1, 2), 4);
+        x.sight(0, 0, 2, 0, 0);
+        x.sight(2, 0, 2, 0, 0);
+        due("ways from other STATIONS, not closed either", x.ways(0, 1, 0, 2, 2), 4);
+    }
+
     private static void fitsAtEdges() {
         says("They FIT what is there if for each AXIS some value is in both; RULED OUT else");
         int[][] gaps = {{1, 3}, {10, 30}, {100, 300}};
@@ -556,6 +726,11 @@ public final class RunEdgesTest extends Edges {
         blocks();
         emptyBlocks();
         mostSteps();
+        stepsWithinSteps();
+        fullTexts();
+        askewFar();
+        roundedOnce();
+        everyStart();
         runByItself();
         farthestPlace();
         greatestErrors();
@@ -564,6 +739,8 @@ public final class RunEdgesTest extends Edges {
         noMeeting();
         meetingDay();
         thereEnds();
+        thereAtFirst();
+        fittingDay();
         fitsAtEdges();
         openOnes();
         pairs();
