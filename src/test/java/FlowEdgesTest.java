@@ -146,6 +146,28 @@ public final class FlowEdgesTest extends Edges {
         flowIs(z, 0, 0, 0, 0);
     }
 
+    /** Falls whose thousandths have more than 32 bits, and would be few, or below 0, in 32. */
+    private static void steepFalls() {
+        says("CLASS: 9 at most, 0 below 1, however steep a REACH falls or rises");
+        for (int fall : new int[] {2147483, 2147484, 3000000, 4294967, 4294968, 8589935, 12884902, 21474837, 23000000}) {
+            for (int length : new int[] {1, 2, 1000, 100000}) {
+                TunnelBook x = withStations(23);
+                for (int s = 0; s < 23; s++) {
+                    int part = fall / 23 + (s < fall % 23 ? 1 : 0);
+                    x.sight(2, s + 1, s, part, part);
+                }
+                x.reach(0, length, length, 1, 10000, 1000, 23);
+                x.reach(1, length, length, 1, 10000, 1000, 0);
+                x.mouth(0, 0);
+                x.mouth(1, 23);
+                due("fall of " + fall, x.gap(2, 23, 0, 0, true), fall);
+                flowIs(x, 0, 0, 900, 900);
+                due("rise of " + fall + " on " + length, x.flow(1, 0, 0, false), 0);
+                due("rise of " + fall + " on " + length + ", greatest", x.flow(1, 0, 0, true), 0);
+            }
+        }
+    }
+
     private static void tables() {
         says("TABLE of CLASSES (0 .. 1000 each; at first 10 CLASS); table: False for others");
         TunnelBook x = falling(1, 16, 1000, 1000);
@@ -420,6 +442,7 @@ public final class FlowEdgesTest extends Edges {
         zNotClosed();
         classes();
         fallsByLength();
+        steepFalls();
         tables();
         cutFlow();
         limes();

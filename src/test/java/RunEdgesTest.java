@@ -516,6 +516,16 @@ public final class RunEdgesTest extends Edges {
         Texts.way(y, 0, "repeat 10{line 9999;}line 10;");
         due("farthest", y.meeting(8, 0, 0, 23, 0, true), 223000000);
         due("farthest back", y.meeting(0, 23, 8, 0, 0, true), -223000000);
+        // A million m there and back by 100 mm a m, and at last 100000 m away.
+        yes("tools", y.tools(1000, 0, 0, 0, 0));
+        Texts.way(y, 0, "repeat 45{line 9999;turn 8;line 9999;turn 8;}line 45;turn 8;line 45;turn 8;"
+            + "repeat 10{line 9999;}line 10;");
+        due("EX at the edge", y.run(0, 8, 3), 100000000);
+        due("x at the edge", y.run(0, 8, 0), -100000000);
+        due("farthest with both errors", y.meeting(8, 0, 0, 23, 0, true), 423000000);
+        due("farthest with both errors, least", y.meeting(8, 0, 0, 23, 0, false), 23000000);
+        due("farthest back with both errors", y.meeting(0, 23, 8, 0, 0, false), -423000000);
+        due("farthest back with both errors, greatest", y.meeting(0, 23, 8, 0, 0, true), -23000000);
     }
 
     private static void noMeeting() {

@@ -208,6 +208,26 @@ public final class SeekEdgesTest extends Edges {
         detourIs(seeking(1, 0, 0, 0, 0, 20), 40, -20, NONE, NONE);
     }
 
+    private static void farDetours() {
+        says("rows that go far to the side and are pulled back");
+        // 31 steps to 51, then within HEAR 2 back a step (2) and 7 back 4 each: 49, 47, 43, .. 19.
+        int out = 31 * 20 + 31 * 32 / 2;
+        int back = 49 + 47 + 43 + 39 + 35 + 31 + 27 + 23 + 19;
+        // 20 steps to 0, then 1 and 0 in turn as long as nothing is heard.
+        int least = 190 + 6;
+        detourIs(seeking(1, 0, 1, 8, 3, 20), 40, 20, least, out + back);
+        detourIs(seeking(1, 0, 1, 8, 3, 20), 40, -20, least, out + back);
+        // Only to the right: 29 steps from 20 to 49, then 11 heard ones, 2 back each: 47 .. 27, beyond WIDE 20.
+        detourIs(seeking(0, 0, 1, 10, 3, 20), 40, 20, NONE, NONE);
+        // 25 steps to 45, then 15 heard ones, 2 back each: 43, 41, .. 15.
+        detourIs(seeking(0, 0, 1, 14, 3, 20), 40, 20, 25 * 20 + 25 * 26 / 2 + 15 * 29, 25 * 20 + 25 * 26 / 2 + 15 * 29);
+        detourIs(seeking(1, 0, 0, 14, 3, 20), 40, -20, 25 * 20 + 25 * 26 / 2 + 15 * 29, 25 * 20 + 25 * 26 / 2 + 15 * 29);
+        chanceIs(seeking(0, 0, 9, 0, 0, 20), 12, 20, 1, 1);
+        chanceIs(seeking(0, 0, 9, 0, 0, 20), 12, 8, 0, 1);
+        chanceIs(seeking(0, 0, 9, 0, 0, 20), 12, 9, 1, 1);
+        chanceIs(seeking(9, 0, 0, 0, 0, 20), 12, -9, 1, 1);
+    }
+
     private static void detourWeights() {
         says("and whose WEIGHTS aren't 0");
         detourIs(seeking(0, 0, 1, 0, 0, 0), 3, -3, 3, 3);
@@ -231,6 +251,7 @@ public final class SeekEdgesTest extends Edges {
         lowestTerms();
         detourArguments();
         detourRows();
+        farDetours();
         detourWeights();
         finish("SeekEdgesTest");
     }
